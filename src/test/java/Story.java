@@ -59,6 +59,10 @@ final class Story {
         return this;
     }
 
+    int byteAt(int address) {
+        return bytes[address];
+    }
+
     int size() {
         return bytes.length;
     }
