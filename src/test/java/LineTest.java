@@ -102,6 +102,8 @@ public final class LineTest {
         laid("up to the first 0 byte", read(reading(10, 5), "ab\0cdefg", 1), "ab");
         TaleMachine x = read(reading(10, 5).at(LINE + 4, 99), "ab", 1);
         CHECK.due("behind the 0 nothing changes", x.peek(LINE + 4), 99);
+        CHECK.due("the 0 itself", read(reading(10, 5).at(LINE + 3, 99), "ab", 1).peek(LINE + 3), 0);
+        CHECK.due("the 0 of an empty line", read(reading(10, 5).at(LINE + 1, 99), "", 0).peek(LINE + 1), 0);
         CHECK.due("a 0 in the first number ends it", read(reading(10, 5), "ab\0\0cd", 1).peek(LINE + 5), 0);
     }
 

@@ -53,6 +53,7 @@ public final class ObjectsTest {
         CHECK.due("9 was not set", x.peek(place(1) + 1), 0x80);
         so("test_attr", goes(forest(0x0A, 2, 9, 0xC5).at(place(2) + 1, 0x40)), true);
         so("test_attr not", goes(forest(0x0A, 2, 10, 0xC5).at(place(2) + 1, 0x40)), false);
+        so("test_attr 0 not", goes(forest(0x0A, 2, 0, 0xC5).at(place(2), 0x7F)), false);
         for (int op = 10; op <= 12; op++) {
             CHECK.halted("ATTRIBUTE 32, OP " + op, forest(op, 1, 32, 0xC5).run(1), 9, CODE);
             CHECK.halted("OBJECT 0, OP " + op, forest(op, 0, 1, 0xC5).run(1), 9, CODE);
@@ -95,6 +96,7 @@ public final class ObjectsTest {
         TaleMachine x = forest(0x99, 2).run(1);
         CHECK.due("the first child: the parent", links(x, 1), 3);
         CHECK.due("the first child: itself", links(x, 2), 0);
+        CHECK.due("PC behind remove_obj", x.count(4), CODE + 2);
         CHECK.due("the first child: the next one", links(x, 3), 10400);
         TaleMachine y = forest(0x99, 3).run(1);
         CHECK.due("one between: the parent", links(y, 1), 2);
@@ -162,6 +164,7 @@ public final class ObjectsTest {
 
     private static void putProp() {
         TaleMachine x = forest(0xE3, 0x53, 1, 31, 0x12, 0x34).run(1);
+        CHECK.due("PC behind put_prop", x.count(4), CODE + 6);
         CHECK.due("a WORD, high", x.peek(NAME_1 + 4), 0x12);
         CHECK.due("a WORD, low", x.peek(NAME_1 + 5), 0x34);
         TaleMachine y = forest(0xE3, 0x53, 1, 3, 0x12, 0x34).run(1);

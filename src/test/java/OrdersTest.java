@@ -99,6 +99,8 @@ public final class OrdersTest {
         so("je of three", new Story(0xC1, 0x57, 9, 9, 2, 0xC5).run(1).count(4) == CODE + 9, true);
         so("jz", new Story(0x90, 0, 0xC5).run(1).count(4) == CODE + 6, true);
         so("jz not", new Story(0x90, 1, 0xC5).run(1).count(4) == CODE + 6, false);
+        so("jz of a WORD", new Story(0x80, 0, 0, 0xC5).run(1).count(4) == CODE + 7, true);
+        so("jz of a WORD not", new Story(0x80, 1, 0, 0xC5).run(1).count(4) == CODE + 7, false);
         so("verify", new Story(0xBD, 0xC5).run(1).count(4) == CODE + 5, true);
     }
 
@@ -169,6 +171,7 @@ public final class OrdersTest {
             CHECK.halted("VAR " + op, new Story(0xE0 | op, 0x57, 1, 1, 1).run(1), 6, CODE);
         }
         CHECK.halted("TWO 0", new Story(0, 1, 1).run(1), 6, CODE);
+        CHECK.halted("TWO 0 with TYPES", new Story(0xC0, 0x5F, 0, 0, 0xC5).run(1), 6, CODE);
         for (int op = 25; op <= 31; op++) {
             CHECK.halted("TWO " + op, new Story(op, 1, 1).run(1), 6, CODE);
         }
@@ -333,10 +336,12 @@ public final class OrdersTest {
         CHECK.due("the answer", y.word(1, false), 8);
         TaleMachine z = story.at(Story.ROUTINE, 0, PUSH, ONE_BYTE, 6, 0xB8).run(4);
         CHECK.due("ret_popped", z.word(1, false), 6);
+        CHECK.due("ret_popped goes back", z.count(4), CODE + 8);
         CHECK.halted("WORDS of other FRAMES", story.at(Story.ROUTINE, 0, 0xB9).run(3), 4, Story.ROUTINE + 1);
         CHECK.halted("ret_popped of none", story.at(Story.ROUTINE, 0, 0xB8).run(3), 4, Story.ROUTINE + 1);
         TaleMachine f = story.at(Story.ROUTINE, 0, 0xB1).run(3);
         CHECK.due("rfalse", f.word(1, false), 0);
+        CHECK.due("rfalse goes back", f.count(4), CODE + 8);
         TaleMachine b = story.at(Story.ROUTINE, 0, 0x90, 0, RETURN_ON_TRUE).run(3);
         CHECK.due("a BRANCH of offset 1", b.word(1, false), 1);
         TaleMachine c = story.at(Story.ROUTINE, 0, 0x90, 0, 0xC0).run(3);

@@ -9,6 +9,7 @@ public final class SaveTest {
         restoring();
         restoringAWait();
         restoringFrames();
+        restoringManyFrames();
         squeezing();
         longRuns();
         worstCase();
@@ -113,6 +114,23 @@ public final class SaveTest {
         CHECK.due("with the caller's WORDS", x.count(2), 1);
     }
 
+    private static void restoringManyFrames() {
+        // each FRAME calls the next one with its LOCAL 1 and 1 more, and HALTS in the last one
+        TaleMachine x = new Story(0xE0, 0x1F, 1, 0x2C, 1, G0)
+                .at(Story.ROUTINE, 2, 0, 5, 0, 6, 0x54, 1, 1, 2, 0xE0, 0x2F, 1, 0x2C, 2, 0, 0xAB, 0).run(37);
+        CHECK.due("FRAMES", x.count(3), 20);
+        CHECK.due("LOCAL 1 of the newest", x.word(1, true), 19);
+        CHECK.due("save", x.save(2), 0);
+        x.run(1);
+        CHECK.due("LOCAL 2 of the newest goes on", x.word(2, true), 20);
+        CHECK.due("restore", x.restore(2), 1);
+        CHECK.due("FRAMES again", x.count(3), 20);
+        CHECK.due("LOCAL 1 of the newest again", x.word(1, true), 19);
+        CHECK.due("LOCAL 2 of the newest again", x.word(2, true), 6);
+        x.run(2);
+        CHECK.halted("no FRAME more", x, 3, Story.ROUTINE + 9);
+    }
+
     private static void squeezes(String what, TaleMachine x, int k, int... want) {
         CHECK.due(what + ": how many", x.save(k), want.length);
         for (int i = 0; i < want.length; i++) {
@@ -166,23 +184,23 @@ public final class SaveTest {
         // a loop stores 170 at 1 + GLOBAL 0, and adds 2 to that: every second byte changes
         TaleMachine x = new Story().word(14, 960).word(4, 960).word(6, 960).word(12, 950)
                 .at(960, 0xE2, 0x67, 1, G0, 170, 0x54, G0, 2, G0, 0x8C, 255, 246).loaded();
-        for (int i = 0; i < 9; i++) {
-            x.run(150);
+        for (int i = 0; i < 10; i++) {
+            x.run(141);
         }
-        CHECK.due("450 times", x.peek(950) * 256 + x.peek(951), 900);
-        CHECK.due("lone zeros", x.save(0), 3 * 450 + 2 + 2);
+        CHECK.due("470 times", x.peek(950) * 256 + x.peek(951), 940);
+        CHECK.due("lone zeros", x.save(0), 3 * 470 + 2 + 2);
         CHECK.due("the first byte", x.squeezed(0, 0), 0);
         CHECK.due("no more zeros", x.squeezed(0, 1), 0);
         CHECK.due("a changed one", x.squeezed(0, 2), 170);
-        CHECK.due("the run ahead of GLOBAL 0", x.squeezed(0, 1351), 49);
-        CHECK.due("GLOBAL 0", x.squeezed(0, 1353), 900 & 255);
+        CHECK.due("the run ahead of GLOBAL 0", x.squeezed(0, 1411), 9);
+        CHECK.due("GLOBAL 0", x.squeezed(0, 1413), 940 & 255);
         x.start();
-        CHECK.due("as it was loaded", x.peek(899), 0);
+        CHECK.due("as it was loaded", x.peek(939), 0);
         x.restore(0);
-        for (int at = 64; at < 900; at++) {
+        for (int at = 64; at < 940; at++) {
             CHECK.due("restored byte " + at, x.peek(at), at % 2 == 1 ? 170 : 0);
         }
-        CHECK.due("behind them", x.peek(901), 0);
-        CHECK.due("GLOBAL 0 is so again", x.peek(950) * 256 + x.peek(951), 900);
+        CHECK.due("behind them", x.peek(941), 0);
+        CHECK.due("GLOBAL 0 is so again", x.peek(950) * 256 + x.peek(951), 940);
     }
 }

@@ -48,6 +48,7 @@ public final class TextTest {
         tells("a row is for one LETTER", "Aa", 4, 6, 6);
         tells("a row, then a blank", " a", 4, 0, 6);
         tells("the last row counts", "0A", 4, 5, 8, 5, 4, 6);
+        tells("a WORD of blanks alone", "   ", 0, 0, 0);
         tells("nothing but filling", "", 5, 5, 5);
     }
 
@@ -107,12 +108,15 @@ public final class TextTest {
         CHECK.told("print_paddr", story.at(CODE, 0x8D, TEXTS / 2 >> 8, TEXTS / 2 & 255).run(1), "hello");
         CHECK.told("print_paddr modulo 65536",
                 story.at(CODE, 0x8D, TEXTS / 2 + 32768 >> 8, TEXTS / 2 & 255).run(1), "hello");
+        CHECK.due("PC behind print_addr", story.at(CODE, 0x87, TEXTS >> 8, TEXTS & 255).run(1).count(4), CODE + 3);
+        CHECK.due("PC behind print_paddr", story.at(CODE, 0x8D, 1, 0x4A).run(1).count(4), CODE + 3);
         CHECK.halted("print_addr at L", story.at(CODE, 0x87, 4, 0).run(1), 1, CODE);
         CHECK.told("new lines", new Story(0xBB, 0xBB).run(2), "\r\r");
         int[] printRet = Story.join(Story.code(0, 0xB3), Story.spell("yes"));
         TaleMachine x = new Story(0xE0, 0x3F, 1, 0x2C, 0).at(Story.ROUTINE, printRet).run(2);
         CHECK.told("print_ret", x, "yes\r");
         CHECK.due("print_ret answers", x.word(0, false), 1);
+        CHECK.due("print_ret goes back", x.count(4), CODE + 5);
         TaleMachine y = new Story(Story.join(Story.code(0xB3), Story.spell("no"))).run(1);
         CHECK.halted("print_ret of the first FRAME", y, 4, CODE);
         CHECK.told("what it told stays", y, "no\r");
@@ -133,6 +137,7 @@ public final class TextTest {
         }
         CHECK.due("print_num -1", number(65535).equals("-1") ? 1 : 0, 1);
         CHECK.due("print_num -32768", number(32768).equals("-32768") ? 1 : 0, 1);
+        CHECK.due("PC behind print_num", new Story(0xE6, 0x7F, 5).run(1).count(4), CODE + 3);
         TaleMachine x = new Story(0xE5, 0x7F, 65, 0xE5, 0x7F, 0, 0xE5, 0x7F, 13, 0xE5, 0x7F, 126,
                 0xE5, 0x7F, 127, 0xE5, 0x7F, 31, 0xE5, 0x3F, 1, 65, 0xE5, 0x7F, 32).run(8);
         CHECK.told("print_char", x, "A\r~??? ");
