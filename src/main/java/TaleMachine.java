@@ -921,6 +921,9 @@ public final class TaleMachine {
         private final int[] letters;
         private int heard;
         private int spelled;
+        private int place;
+        private int most;
+        private int told;
 
         private Reader(Store store) {
             this.store = store;
@@ -945,16 +948,23 @@ public final class TaleMachine {
         /** Lays what was heard at lineAt, tells its WORDS at wordsAt; answers how many. */
         private int part(int lineAt, int wordsAt) {
             layLine(lineAt);
-            int most = store.byteAt(wordsAt);
-            int told = 0;
-            int behind = 0;
-            for (int from = 0; from < heard && told < most && store.halt == 0; from++) {
-                if (from >= behind && codes[from] != BLANK) {
-                    behind = endOfWord(from);
-                    tellWord(from, behind, wordsAt + 2 + 4 * told);
-                    told++;
+            place = wordsAt + 2;
+            most = store.byteAt(wordsAt);
+            told = 0;
+            int from = 0;
+            // also behind the last WORD that may be told each code is held against SEPARATORS
+            for (int i = 0; i < heard; i++) {
+                boolean blank = codes[i] == BLANK;
+                boolean itself = !blank && isSeparator(codes[i]);
+                if (blank || itself) {
+                    tellWord(from, i);
+                    from = i + 1;
+                }
+                if (itself) {
+                    tellWord(i, i + 1);
                 }
             }
+            tellWord(from, heard);
             store.putByte(wordsAt + 1, told);
             return told;
         }
@@ -967,17 +977,6 @@ public final class TaleMachine {
             store.putByte(lineAt + 1 + heard, 0);
         }
 
-        private int endOfWord(int from) {
-            int behind = from + 1;
-            if (isSeparator(codes[from])) {
-                return behind;
-            }
-            while (behind < heard && codes[behind] != BLANK && !isSeparator(codes[behind])) {
-                behind++;
-            }
-            return behind;
-        }
-
         private boolean isSeparator(int code) {
             int many = store.byteAt(store.dictionary);
             for (int i = 1; i <= many; i++) {
@@ -988,11 +987,16 @@ public final class TaleMachine {
             return false;
         }
 
-        private void tellWord(int from, int behind, int at) {
+        private void tellWord(int from, int behind) {
+            if (from == behind || told >= most) {
+                return;
+            }
             spell(from, behind);
-            store.putWord(at, entryOf(spelledWord(0), spelledWord(3) | 32768));
-            store.putByte(at + 2, behind - from);
-            store.putByte(at + 3, from + 1);
+            store.putWord(place, entryOf(spelledWord(0), spelledWord(3) | 32768));
+            store.putByte(place + 2, behind - from);
+            store.putByte(place + 3, from + 1);
+            place += 4;
+            told++;
         }
 
         private void spell(int from, int behind) {

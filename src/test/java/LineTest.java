@@ -12,6 +12,8 @@ public final class LineTest {
         laying();
         parting();
         separators();
+        heldBehindTheMost();
+        heldOnce();
         lookingUp();
         encoding();
         mostEntries();
@@ -133,6 +135,44 @@ public final class LineTest {
         told("parted by SEPARATORS", x, 4, entry(1), 1, 6);
         told("parted by SEPARATORS", x, 5, entry(2), 1, 8);
         CHECK.due("! is none of them", read(reading(10, 9), "a!b", 1).peek(WORDS + 4), 3);
+    }
+
+    /** Byte b bounds how many WORDS are told, not which codes are held against SEPARATORS. */
+    private static void heldBehindTheMost() {
+        for (int at : new int[] {1024, 65535}) {
+            read(reading(10, 0).word(8, at), "a", -11);
+            read(reading(10, 0).word(8, at), " \u00ff\u00ff", -11);
+            read(reading(10, 0).word(8, at), "   ", 0);
+            read(reading(10, 0).word(8, at), "", 0);
+            read(reading(0, 0).word(8, at), "a", 0);
+            read(reading(2, 0).word(8, at), "  a", 0);
+        }
+        // five SEPARATORS, of which only the first one is in MEMORY
+        int last = Story.SIZE - 2;
+        read(reading(10, 0).word(8, last).at(last, 5, ','), ",", 0);
+        read(reading(10, 0).word(8, last).at(last, 5, ','), " ,, ,", 0);
+        read(reading(10, 0).word(8, last).at(last, 5, ','), ",, a", -11);
+        read(reading(10, 0).word(8, last).at(last, 1, ','), ",, a", 0);
+        TaleMachine x = reading(10, 0).word(8, 65535).at(WORDS + 1, 9).run(1);
+        CHECK.due("a HALT of SEPARATORS", say(x, "Go"), -11);
+        CHECK.halted("a HALT of SEPARATORS", x, 1, CODE + 6);
+        laid("the line stays", x, "go");
+        CHECK.due("how many is not written", x.peek(WORDS + 1), 9);
+        TaleMachine y = read(reading(10, 1, "go"), "go,n", 1);
+        told("the first one", y, 0, entry(0), 2, 1);
+        told("none behind it", y, 1, 0, 0, 0);
+        CHECK.due("one of three", y.peek(WORDS + 1), 1);
+        CHECK.due("a SEPARATOR is one of the most", read(reading(10, 2), "a,b", 2).peek(WORDS + 9), 2);
+    }
+
+    /** What the first WORD tells is laid over the SEPARATORS, behind which , was held against them. */
+    private static void heldOnce() {
+        int at = WORDS + 4;
+        TaleMachine x = read(reading(10, 9).word(8, at).at(at, 1, ',', 0, 0, 0), "a,b", 3);
+        CHECK.due("the SEPARATORS are others now", x.peek(at) * 256 + x.peek(at + 1), 257);
+        told("held once", x, 1, 0, 1, 2);
+        told("held once", x, 2, 0, 1, 3);
+        read(reading(10, 9).word(8, at).at(at, 1, ',', 0, 0, 0), "a b,c", 2);
     }
 
     private static void lookingUp() {
