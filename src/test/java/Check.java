@@ -2,12 +2,18 @@
 final class Check {
     private int asked = 0;
     private int wrong = 0;
+    private String sentence = "";
+
+    /** The sentence of the document that the answers asked from now on are due by. */
+    void says(String words) {
+        sentence = "[" + words + "] ";
+    }
 
     void due(String what, long got, long want) {
         asked++;
         if (got != want) {
             wrong++;
-            System.out.println(what + " answered " + got + ", due is " + want);
+            System.out.println(sentence + what + " answered " + got + ", due is " + want);
         }
     }
 
@@ -20,7 +26,7 @@ final class Check {
         asked++;
         if (!got.toString().equals(want)) {
             wrong++;
-            System.out.println(what + " told '" + got + "', due is '" + want + "'");
+            System.out.println(sentence + what + " told '" + got + "', due is '" + want + "'");
         }
     }
 
@@ -29,6 +35,10 @@ final class Check {
         due(what + ": the state", machine.state(), 4);
         due(what + ": the HALT", machine.count(5), halt);
         due(what + ": PC", machine.count(4), pc);
+    }
+
+    void so(String what, boolean got, boolean want) {
+        due(what, got ? 1 : 0, want ? 1 : 0);
     }
 
     void finish() {

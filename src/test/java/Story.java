@@ -33,6 +33,17 @@ final class Story {
         at(CODE, code);
     }
 
+    /** A STORY of all parts that begins with these ORDERS. */
+    static Story of(int[]... orders) {
+        return new Story(join(orders));
+    }
+
+    /** A STORY of one ORDER, whose last byte is the last one of MEMORY. */
+    static Story atEnd(int... order) {
+        int at = SIZE - order.length;
+        return new Story().at(at, order).word(6, at);
+    }
+
     Story at(int address, int... values) {
         for (int i = 0; i < values.length; i++) {
             bytes[address + i] = values[i];
@@ -57,6 +68,11 @@ final class Story {
     Story cut(int size) {
         bytes = Arrays.copyOf(bytes, size);
         return this;
+    }
+
+    /** THE MARK, and the WORD at 4, which may not be below it. */
+    Story mark(int address) {
+        return word(14, address).word(4, Math.max(address, MARK));
     }
 
     int byteAt(int address) {
