@@ -512,6 +512,8 @@ public final class PromisesTest {
             CHECK.due(many + " codes: the first", codes(many).loaded().text(TEXTS, 0), -1);
         }
         CHECK.due("no STORY", new TaleMachine().text(0, -4), -1);
+        CHECK.due("code -1, ahead of a HALT", x.text(65535, -1), -1);
+        CHECK.due("501 codes, ahead of HALT 13", codes(501).loaded().text(TEXTS, -4), -1);
     }
 
     private static void textHalts() {

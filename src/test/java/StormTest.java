@@ -1,7 +1,7 @@
 /** Calls with any numbers, on STORIES of any bytes: none may throw, and all answers are numbers that can be due. */
 public final class StormTest {
     private static final Check CHECK = new Check();
-    private static final int ROUNDS = 3000, CALLS = 160;
+    private static final int ROUNDS = 3000, CALLS = 156;
     private static long seed = 20261116;
 
     public static void main(String[] args) {
@@ -87,10 +87,10 @@ public final class StormTest {
         if (got < -23 || got > 65535) {
             CHECK.due("an answer", got, 0);
         }
-        boolean known = x.state() >= 0 && x.state() <= 4;
-        CHECK.due("the state is one of five", known ? 1 : 0, 1);
-        if (x.state() != 0) {
-            CHECK.due("a HALT if it is HALTED, none else", x.count(5) != 0 ? 4 : 0, x.state() == 4 ? 4 : 0);
+        int state = x.state();
+        CHECK.so("the state is one of five", state >= 0 && state <= 4, true);
+        if (state != 0) {
+            CHECK.so("a HALT if it is HALTED, none else", x.count(5) != 0, state == 4);
         }
     }
 }

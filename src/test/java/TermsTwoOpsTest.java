@@ -202,7 +202,9 @@ public final class TermsTwoOpsTest {
         TaleMachine x = story.at(ROUTINE, Story.join(Story.code(0), Orders.push(6), Orders.push(7), Story.code(0xB8))).run(4);
         CHECK.due("the top", wordAt(x, 64), 7);
         CHECK.due("the FRAME's WORDS went", x.count(2), 0);
-        CHECK.halted("of none", story.at(ROUTINE, 0, 0xB8).run(2), 4, ROUTINE + 1);
+        TaleMachine none = story.at(ROUTINE, 0, 0xB8).run(2);
+        CHECK.halted("of none", none, 4, ROUTINE + 1);
+        CHECK.due("of none: the FRAME stays", none.count(3), 2);
         CHECK.halted("of the first FRAME", Story.of(Orders.push(7), Story.code(0xB8)).run(2), 4, CODE + 4);
         TaleMachine y = Story.of(Orders.push(6), Orders.push(7), Story.code(0xB9, 0xB9, 0xB9)).run(3);
         CHECK.due("one goes", y.count(2), 1);
@@ -296,6 +298,9 @@ public final class TermsTwoOpsTest {
         CHECK.halted("a WORD that is cut off", Story.of(Orders.call(1022, 0)).at(1022, 1).run(1), 1, CODE);
         TaleMachine v = Story.of(Orders.call(1020, 0)).at(1020, 1, 2, 3).run(1);
         CHECK.due("the last WORD", v.word(1, true), 515);
+        TaleMachine w = Story.of(Orders.call(1022, 0, 9)).at(1022, 1).run(1);
+        CHECK.due("a WORD that is cut off, another instead of it", w.word(1, true), 9);
+        CHECK.due("PC behind it", w.count(4), 1025);
     }
 
     private static void ret() {
@@ -328,6 +333,15 @@ public final class TermsTwoOpsTest {
         CHECK.halted("a BRANCH", new Story(0xBD, 0xC1).run(1), 4, CODE);
         TaleMachine x = Story.of(Orders.call(ROUTINE, 0), Orders.none(Orders.RTRUE)).at(ROUTINE, 0, 0xB0).run(3);
         CHECK.halted("behind a call", x, 4, CODE + 5);
+        int[][] returns = {Orders.one(Orders.RET, 1), Orders.none(Orders.RTRUE), Orders.none(Orders.RFALSE),
+            Orders.one(Orders.JUMP, 0), Orders.one(Orders.JZ, 0, 0xC1)};
+        for (int i = 0; i < returns.length; i++) {
+            TaleMachine y = Story.of(Orders.push(7), returns[i]).run(2);
+            CHECK.halted("return " + i, y, 4, CODE + 4);
+            CHECK.due("return " + i + ": the FRAME stays", y.count(3), 1);
+            CHECK.due("return " + i + ": without LOCALS", y.count(6), 0);
+            CHECK.due("return " + i + ": its WORD stays", y.word(0, false), 7);
+        }
     }
 
     private static void storing() {
