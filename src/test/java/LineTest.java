@@ -1,5 +1,3 @@
-import java.nio.charset.StandardCharsets;
-
 /** Promise 7: line, with DICTIONARY. */
 public final class LineTest {
     private static final Check CHECK = new Check();
@@ -41,17 +39,8 @@ public final class LineTest {
         return story;
     }
 
-    private static int number(String text, int from) {
-        byte[] codes = text.getBytes(StandardCharsets.ISO_8859_1);
-        int number = 0;
-        for (int i = from; i < from + 4; i++) {
-            number = number << 8 | (i < codes.length ? codes[i] & 255 : 0);
-        }
-        return number;
-    }
-
     private static int say(TaleMachine x, String text) {
-        return x.line(number(text, 0), number(text, 4));
+        return x.line(Story.four(text, 0), Story.four(text, 4));
     }
 
     private static void laid(String what, TaleMachine x, String want) {

@@ -477,11 +477,7 @@ public final class PromisesTest {
 
     /** A TEXT at TEXTS of so many codes: a, the last ones b; ABBREVIATION 5 is 45 of them. */
     private static Story codes(int count) {
-        int[] letters = new int[2 * (count / 45) + count % 45];
-        for (int i = 0; i < letters.length; i++) {
-            letters[i] = i >= 2 * (count / 45) ? 7 : i % 2 == 0 ? 1 : 5;
-        }
-        return new Story().at(TEXTS, Story.pack(letters)).word(Story.ABBREVIATIONS + 10, 450).at(900, Story.pack(Story.repeat(45, 6)));
+        return new Story().at(TEXTS, Story.pack(Story.manyCodes(count))).word(Story.ABBREVIATIONS + 10, 450).at(900, Story.pack(Story.repeat(45, 6)));
     }
 
     private static void text() {

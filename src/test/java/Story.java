@@ -1,3 +1,4 @@
+import java.nio.charset.StandardCharsets;
 import java.util.Arrays;
 
 /** Lays out the bytes of a STORY for the tests. */
@@ -145,6 +146,30 @@ final class Story {
             all[i] = part[i % part.length];
         }
         return all;
+    }
+
+    /** Four codes of a text as one number that line() takes, filled with 0. */
+    static int four(String text, int from) {
+        byte[] codes = text.getBytes(StandardCharsets.ISO_8859_1);
+        int number = 0;
+        for (int i = from; i < from + 4; i++) {
+            number = number << 8 | (i < codes.length ? codes[i] & 255 : 0);
+        }
+        return number;
+    }
+
+    /** The WORD at an address, as it is now. */
+    static int wordOf(TaleMachine x, int address) {
+        return x.peek(address) * 256 + x.peek(address + 1);
+    }
+
+    /** LETTERS of a TEXT of so many codes, where ABBREVIATION 5 tells 45 of them; what it does not tell is b. */
+    static int[] manyCodes(int count) {
+        int[] letters = new int[2 * (count / 45) + count % 45];
+        for (int i = 0; i < letters.length; i++) {
+            letters[i] = i >= 2 * (count / 45) ? 7 : i % 2 == 0 ? 1 : 5;
+        }
+        return letters;
     }
 
     /** LETTERS as the bytes of a TEXT, filled with 5. */

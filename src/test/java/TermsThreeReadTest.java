@@ -1,5 +1,3 @@
-import java.nio.charset.StandardCharsets;
-
 /** "Terms" 3, sentence by sentence: read with DICTIONARY, and random. */
 public final class TermsThreeReadTest {
     private static final Check CHECK = new Check();
@@ -35,18 +33,9 @@ public final class TermsThreeReadTest {
                 .at(DICTIONARY, 2, ',', '.', 4, 0, 0);
     }
 
-    private static int number(String text, int from) {
-        byte[] codes = text.getBytes(StandardCharsets.ISO_8859_1);
-        int number = 0;
-        for (int i = from; i < from + 4; i++) {
-            number = number << 8 | (i < codes.length ? codes[i] & 255 : 0);
-        }
-        return number;
-    }
-
     private static TaleMachine said(Story story, String text, int want) {
         TaleMachine x = story.run(1);
-        CHECK.due("line '" + text + "'", x.line(number(text, 0), number(text, 4)), want);
+        CHECK.due("line '" + text + "'", x.line(Story.four(text, 0), Story.four(text, 4)), want);
         return x;
     }
 

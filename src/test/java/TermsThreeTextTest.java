@@ -151,27 +151,18 @@ public final class TermsThreeTextTest {
         CHECK.told("another TEXT does not go on with it", x, "ababcabcaba");
     }
 
-    /** So many codes, by abbreviations of 45 of them: a, the last ones b. */
-    private static int[] manyCodes(int count) {
-        int[] letters = new int[2 * (count / 45) + count % 45];
-        for (int i = 0; i < letters.length; i++) {
-            letters[i] = i >= 2 * (count / 45) ? 7 : i % 2 == 0 ? 1 : 5;
-        }
-        return letters;
-    }
-
     private static void fiveHundred() {
         CHECK.says("A TEXT tells 500 codes at most .. the next code .. HALT 13 (what is told stays)");
         int[] a45 = Story.repeat(45, 6);
-        TaleMachine x = story(manyCodes(499), a45).run(1);
+        TaleMachine x = story(Story.manyCodes(499), a45).run(1);
         CHECK.due("499", x.count(0), 499);
-        TaleMachine y = story(manyCodes(500), a45).run(1);
+        TaleMachine y = story(Story.manyCodes(500), a45).run(1);
         CHECK.due("500", y.count(0), 500);
         CHECK.due("it can go on", y.state(), 1);
-        TaleMachine z = story(manyCodes(501), a45).run(1);
+        TaleMachine z = story(Story.manyCodes(501), a45).run(1);
         CHECK.halted("501", z, 13, CODE);
         CHECK.due("500 stay", z.count(0), 500);
-        int[] full = manyCodes(500);
+        int[] full = Story.manyCodes(500);
         CHECK.halted("a blank", story(Story.join(full, Story.code(0)), a45).run(1), 13, CODE);
         CHECK.halted("a new line", story(Story.join(full, Story.code(5, 7)), a45).run(1), 13, CODE);
         CHECK.halted("a code", story(Story.join(full, Story.code(5, 6, 0, 1)), a45).run(1), 13, CODE);
@@ -184,10 +175,10 @@ public final class TermsThreeTextTest {
     private static void codeZeroIsNone() {
         CHECK.says("(a code 0 is none)");
         int[] a45 = Story.repeat(45, 6);
-        TaleMachine x = story(Story.join(manyCodes(500), Story.code(5, 6, 0, 0)), a45).run(1);
+        TaleMachine x = story(Story.join(Story.manyCodes(500), Story.code(5, 6, 0, 0)), a45).run(1);
         CHECK.due("behind the 500th", x.state(), 1);
         CHECK.due("it is not told", x.count(0), 500);
-        TaleMachine y = story(Story.join(Story.code(5, 6, 0, 0), manyCodes(500)), a45).run(1);
+        TaleMachine y = story(Story.join(Story.code(5, 6, 0, 0), Story.manyCodes(500)), a45).run(1);
         CHECK.due("ahead of the first", y.state(), 1);
         tells("", 5, 6, 0, 0);
     }
@@ -242,7 +233,7 @@ public final class TermsThreeTextTest {
     private static void eachTextAlone() {
         CHECK.says("A TEXT tells 500 codes at most (.. each TEXT)");
         int[] a45 = Story.repeat(45, 6);
-        Story twice = story(manyCodes(450), a45).at(CODE + 15, print(manyCodes(450)));
+        Story twice = story(Story.manyCodes(450), a45).at(CODE + 15, print(Story.manyCodes(450)));
         TaleMachine x = twice.run(2);
         CHECK.due("two of 450", x.count(0), 900);
         CHECK.due("they can go on", x.state(), 1);
@@ -306,13 +297,13 @@ public final class TermsThreeTextTest {
     private static void threeHundred() {
         CHECK.says("300 of it are told, all counted.");
         int[] a45 = Story.repeat(45, 6);
-        TaleMachine x = story(manyCodes(299), a45).run(1);
+        TaleMachine x = story(Story.manyCodes(299), a45).run(1);
         CHECK.due("299: the last one", x.out(298), 'b');
         CHECK.due("299: none behind it", x.out(299), -1);
-        TaleMachine y = story(manyCodes(300), a45).run(1);
+        TaleMachine y = story(Story.manyCodes(300), a45).run(1);
         CHECK.due("300: the last one", y.out(299), 'b');
         CHECK.due("300: none behind it", y.out(300), -1);
-        TaleMachine z = story(manyCodes(301), a45).run(1);
+        TaleMachine z = story(Story.manyCodes(301), a45).run(1);
         CHECK.due("301 are counted", z.count(0), 301);
         CHECK.due("301: the first one", z.out(0), 'a');
         CHECK.due("301: the 300th", z.out(299), 'b');

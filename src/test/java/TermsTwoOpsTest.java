@@ -30,10 +30,6 @@ public final class TermsTwoOpsTest {
         CHECK.finish();
     }
 
-    private static int wordAt(TaleMachine x, int address) {
-        return x.peek(address) * 256 + x.peek(address + 1);
-    }
-
     private static void so(int op, int a, int b, boolean want) {
         TaleMachine x = Story.of(Orders.two(op, a, b, Orders.SKIPS)).run(1);
         CHECK.due("TWO " + op + " of " + a + ", " + b, x.count(4), want ? BEHIND_TWO + 3 : BEHIND_TWO);
@@ -73,7 +69,7 @@ public final class TermsTwoOpsTest {
 
     private static void steps(int op, int value, int b, int left, boolean want) {
         TaleMachine x = Story.of(Orders.two(op, G0, b, Orders.SKIPS)).global(0, value).run(1);
-        CHECK.due("TWO " + op + " of " + value + ": what is left", wordAt(x, 64), left);
+        CHECK.due("TWO " + op + " of " + value + ": what is left", Story.wordOf(x, 64), left);
         CHECK.due("TWO " + op + " of " + value + " and " + b, x.count(4), want ? BEHIND_TWO + 3 : BEHIND_TWO);
     }
 
@@ -93,7 +89,7 @@ public final class TermsTwoOpsTest {
         steps(Orders.INC_CHK, 32766, 0, 32767, true);
         TaleMachine x = Story.atEnd(Orders.two(Orders.INC_CHK, G0, 4)).run(1);
         CHECK.halted("no BRANCH", x, 1, 1018);
-        CHECK.due("it is more by 1 all the same", wordAt(x, 64), 1);
+        CHECK.due("it is more by 1 all the same", Story.wordOf(x, 64), 1);
     }
 
     private static void test() {
@@ -121,7 +117,7 @@ public final class TermsTwoOpsTest {
 
     private static void store() {
         CHECK.says("13 store b to VARIABLE a");
-        CHECK.due("a GLOBAL", wordAt(Story.of(Orders.two(Orders.STORE, G0, 65535)).run(1), 64), 65535);
+        CHECK.due("a GLOBAL", Story.wordOf(Story.of(Orders.two(Orders.STORE, G0, 65535)).run(1), 64), 65535);
         Story story = Story.of(Orders.call(ROUTINE, 0)).at(ROUTINE, 1, 0, 9).at(ROUTINE + 3, Orders.two(Orders.STORE, 1, 65535));
         CHECK.due("a LOCAL", story.run(2).word(1, true), 65535);
         CHECK.halted("a GLOBAL over THE MARK", Story.of(Orders.two(Orders.STORE, 255, 1)).run(1), 2, CODE);
@@ -170,7 +166,7 @@ public final class TermsTwoOpsTest {
         for (int offset = 0; offset <= 1; offset++) {
             TaleMachine x = Story.of(Orders.call(ROUTINE, G0)).global(0, 9).at(ROUTINE, 0)
                     .at(ROUTINE + 1, Orders.one(Orders.JUMP, offset)).run(2);
-            CHECK.due("the FRAME returns " + offset, wordAt(x, 64), offset);
+            CHECK.due("the FRAME returns " + offset, Story.wordOf(x, 64), offset);
             CHECK.due("PC behind the call", x.count(4), CODE + 5);
         }
     }
@@ -200,7 +196,7 @@ public final class TermsTwoOpsTest {
         CHECK.says("8 ret the top of THE STACK; 9 that goes");
         Story story = Story.of(Orders.call(ROUTINE, G0));
         TaleMachine x = story.at(ROUTINE, Story.join(Story.code(0), Orders.push(6), Orders.push(7), Story.code(0xB8))).run(4);
-        CHECK.due("the top", wordAt(x, 64), 7);
+        CHECK.due("the top", Story.wordOf(x, 64), 7);
         CHECK.due("the FRAME's WORDS went", x.count(2), 0);
         TaleMachine none = story.at(ROUTINE, 0, 0xB8).run(2);
         CHECK.halted("of none", none, 4, ROUTINE + 1);
@@ -237,7 +233,7 @@ public final class TermsTwoOpsTest {
     private static void callOfNone() {
         CHECK.says("0 call s: of a 0: 0");
         TaleMachine x = Story.of(Orders.call(0, G0)).global(0, 9).run(1);
-        CHECK.due("0", wordAt(x, 64), 0);
+        CHECK.due("0", Story.wordOf(x, 64), 0);
         CHECK.due("no FRAME", x.count(3), 1);
         CHECK.due("PC", x.count(4), CODE + 5);
         TaleMachine y = Story.of(Orders.call(0, 0, 7, 8)).run(1);
@@ -348,7 +344,7 @@ public final class TermsTwoOpsTest {
         CHECK.says("1 storew: WORD at a + 2 b becomes c; 2 storeb");
         TaleMachine x = Story.of(Orders.var(Orders.STOREW, 200, 5, 65535)).at(209, 1).at(212, 1).run(1);
         CHECK.due("storew: the byte ahead", x.peek(209), 1);
-        CHECK.due("storew", wordAt(x, 210), 65535);
+        CHECK.due("storew", Story.wordOf(x, 210), 65535);
         CHECK.due("storew: the byte behind", x.peek(212), 1);
         TaleMachine y = Story.of(Orders.var(Orders.STOREB, 200, 5, 0x1FE)).at(204, 1).at(206, 1).run(1);
         CHECK.due("storeb: the byte ahead", y.peek(204), 1);

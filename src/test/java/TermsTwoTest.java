@@ -34,10 +34,6 @@ public final class TermsTwoTest {
         CHECK.finish();
     }
 
-    private static int wordAt(TaleMachine x, int address) {
-        return x.peek(address) * 256 + x.peek(address + 1);
-    }
-
     /** Runs, so many ORDERS at most, in steps that run() takes. */
     private static TaleMachine run(Story story, int orders) {
         TaleMachine x = story.loaded();
@@ -55,7 +51,7 @@ public final class TermsTwoTest {
         CHECK.due("the one below stays", x.word(0, false), 7);
         x.run(1);
         CHECK.due("it went", x.count(2), 1);
-        CHECK.due("it is what was read", wordAt(x, 64), 10);
+        CHECK.due("it is what was read", Story.wordOf(x, 64), 10);
     }
 
     private static void fullStack() {
@@ -89,7 +85,7 @@ public final class TermsTwoTest {
         CHECK.halted("ret_popped", story.at(ROUTINE, 0, 0xB8).run(3), 4, ROUTINE + 1);
         CHECK.halted("pull", story.at(ROUTINE, 0, 0xE9, 0x7F, G0).run(3), 4, ROUTINE + 1);
         TaleMachine y = Story.of(Orders.push(7), Orders.call(ROUTINE, G0), Story.code(0x54, 0, 1, G1)).at(ROUTINE, 0, 0xB0).run(4);
-        CHECK.due("its own again, behind the call", wordAt(y, 66), 8);
+        CHECK.due("its own again, behind the call", Story.wordOf(y, 66), 8);
     }
 
     /** A call of a routine with so many LOCALS, 101 on, which begins with that ORDER. */
@@ -106,7 +102,7 @@ public final class TermsTwoTest {
         for (int many = 0; many <= 15; many++) {
             int at = ROUTINE + 1 + 2 * many;
             if (many > 0) {
-                CHECK.due("the last of " + many, wordAt(inRoutine(many, 0x54, many, 1, G0).run(2), 64), 101 + many);
+                CHECK.due("the last of " + many, Story.wordOf(inRoutine(many, 0x54, many, 1, G0).run(2), 64), 101 + many);
                 CHECK.due("it is written", inRoutine(many, 0x14, 200, 200, many).run(2).word(many, true), 400);
             }
             if (many < 15) {
@@ -115,7 +111,7 @@ public final class TermsTwoTest {
                 CHECK.halted("15 of " + many, inRoutine(many, 0x54, 15, 1, G0).run(2), 5, at);
             }
         }
-        CHECK.due("LOCAL 1 of 15", wordAt(inRoutine(15, 0x54, 1, 1, G0).run(2), 64), 102);
+        CHECK.due("LOCAL 1 of 15", Story.wordOf(inRoutine(15, 0x54, 1, 1, G0).run(2), 64), 102);
         Story story = inRoutine(15, Orders.call(660, 1, 44)).at(660, 1, 0, 0, 0xB0);
         TaleMachine x = story.run(3);
         CHECK.due("LOCALS of another FRAME", x.word(15, true), 115);
@@ -129,8 +125,8 @@ public final class TermsTwoTest {
         Story story = new Story().mark(700).word(Story.GLOBALS, 1234).word(last, 5678);
         CHECK.due("VARIABLE 16", story.at(CODE, 0x54, 16, 0, 0).run(1).word(0, false), 1234);
         CHECK.due("VARIABLE 255", story.at(CODE, 0x54, 255, 0, 0).run(1).word(0, false), 5678);
-        CHECK.due("16 is written", wordAt(story.at(CODE, 0x14, 200, 201, 16).run(1), Story.GLOBALS), 401);
-        CHECK.due("255 is written", wordAt(story.at(CODE, 0x14, 200, 201, 255).run(1), last), 401);
+        CHECK.due("16 is written", Story.wordOf(story.at(CODE, 0x14, 200, 201, 16).run(1), Story.GLOBALS), 401);
+        CHECK.due("255 is written", Story.wordOf(story.at(CODE, 0x14, 200, 201, 255).run(1), last), 401);
         CHECK.halted("a WORD over THE MARK", new Story(0x14, 1, 1, 255).mark(last + 1).run(1), 2, CODE);
         CHECK.halted("a WORD at L", new Story(0x54, 16, 1, 0).word(12, 1024).run(1), 1, CODE);
     }
@@ -173,7 +169,7 @@ public final class TermsTwoTest {
             CHECK.due("ORDER " + i + ": the top", x.word(1, false), want[i]);
             CHECK.due("ORDER " + i + ": the one below", x.word(0, false), 7);
         }
-        CHECK.due("load answers the top", wordAt(Story.of(Orders.push(10), naming(0)[5]).run(2), 66), 10);
+        CHECK.due("load answers the top", Story.wordOf(Story.of(Orders.push(10), naming(0)[5]).run(2), 66), 10);
         TaleMachine y = Story.of(Orders.push(10), Orders.one(Orders.LOAD, 0, 0)).run(2);
         CHECK.due("load 0 to 0", y.count(2), 2);
         CHECK.due("the same WORD twice", y.word(0, false) * 100 + y.word(1, false), 1010);
@@ -211,16 +207,16 @@ public final class TermsTwoTest {
         int[] want = {11, 9, 11, 9, 44, 10};
         for (int i = 0; i < want.length; i++) {
             TaleMachine x = Story.of(naming(256 + G0)[i]).global(0, 10).run(1);
-            CHECK.due("ORDER " + i + " of 272", wordAt(x, 64), want[i]);
+            CHECK.due("ORDER " + i + " of 272", Story.wordOf(x, 64), want[i]);
             TaleMachine y = Story.of(Orders.push(10), naming(256)[i]).run(2);
             CHECK.due("ORDER " + i + " of 256", y.word(0, false), want[i]);
             CHECK.halted("ORDER " + i + " of 257", Story.of(naming(257)[i]).run(1), 5, CODE);
         }
         TaleMachine z = Story.of(Orders.push(7), Orders.var(Orders.PULL, 65280 + G0)).run(2);
-        CHECK.due("pull", wordAt(z, 64), 7);
+        CHECK.due("pull", Story.wordOf(z, 64), 7);
         TaleMachine v = Story.of(Orders.push(1), Orders.push(2), Orders.var(Orders.PULL, 256)).run(3);
         CHECK.due("pull 256", v.word(0, false), 2);
-        CHECK.due("255 stays 255", wordAt(Story.of(naming(255)[0]).mark(700).run(1), 542), 1);
+        CHECK.due("255 stays 255", Story.wordOf(Story.of(naming(255)[0]).mark(700).run(1), 542), 1);
     }
 
     private static void typesByte() {
@@ -368,7 +364,7 @@ public final class TermsTwoTest {
         TaleMachine x = Story.of(Orders.call(ROUTINE, G0)).global(0, 9).at(ROUTINE, 0).at(ROUTINE + 1, order).run(2);
         CHECK.due("one FRAME then", x.count(3), 1);
         CHECK.due("PC behind the call", x.count(4), CODE + 5);
-        return wordAt(x, 64);
+        return Story.wordOf(x, 64);
     }
 
     private static void frameReturns() {

@@ -191,11 +191,7 @@ public final class TextTest {
 
     /** A TEXT of so many codes, by an abbreviation of 45 of them. */
     private static Story longText(int codes) {
-        int[] letters = new int[2 * (codes / 45) + codes % 45];
-        for (int i = 0; i < letters.length; i++) {
-            letters[i] = i >= 2 * (codes / 45) ? 7 : i % 2 == 0 ? 1 : 5;
-        }
-        return abbreviated(5, Story.pack(Story.repeat(45, 6)), print(letters));
+        return abbreviated(5, Story.pack(Story.repeat(45, 6)), print(Story.manyCodes(codes)));
     }
 
     private static void mostCodes() {
