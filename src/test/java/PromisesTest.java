@@ -518,6 +518,8 @@ public final class PromisesTest {
         for (int address : new int[] {1020, 1023, 1024, 65535}) {
             CHECK.due("HALT 1 at " + address, x.text(address, -4), -11);
             CHECK.due("HALT 1 at " + address + ", code 0", x.text(address, 0), -11);
+            CHECK.due("HALT 1 at " + address + ", code 200", x.text(address, 200), -11);
+            CHECK.due("HALT 1 at " + address + ", the greatest code", x.text(address, MOST), -11);
         }
         TaleMachine y = new Story().at(TEXTS, Story.pack(6, 1, 0)).word(Story.ABBREVIATIONS, 350).at(700, Story.pack(1, 0)).loaded();
         CHECK.due("HALT 12", y.text(TEXTS, -4), -22);

@@ -172,6 +172,9 @@ public final class TermsThreeObjectsTest {
         }
         Story other = properties(0x05, 9, 0);
         CHECK.due("32 more than a number", answer(other, Orders.two(Orders.GET_PROP, 1, 37, 0)), -20);
+        CHECK.due("number 32, of no OBJECT", answer(other, Orders.two(Orders.GET_PROP, 0, 32, 0)), -19);
+        Story nameless = new Story().object(1, 0, 0, 0, Story.SIZE);
+        CHECK.due("number 32, of none that can be looked at", answer(nameless, Orders.two(Orders.GET_PROP, 1, 32, 0)), -11);
     }
 
     private static void putProp() {
@@ -336,6 +339,10 @@ public final class TermsThreeObjectsTest {
         TaleMachine w = forest(Orders.two(Orders.INSERT_OBJ, 6, 1)).mark(place(6)).run(1);
         CHECK.halted("a can't be written", w, 2, CODE);
         links("b stays", w, 1, 0, 0, 2);
+        TaleMachine far = forest(Orders.two(Orders.INSERT_OBJ, 3, 255)).run(1);
+        CHECK.halted("the child of b is not in MEMORY", far, 1, CODE);
+        links("a is removed, and has its parent", far, 3, 255, 0, 8);
+        links("the one ahead of it has its sibling", far, 2, 1, 4, 7);
     }
 
     private static void jin() {

@@ -14,6 +14,7 @@ public final class TermsThreeReadTest {
         lineThatCantBeWritten();
         blanks();
         separators();
+        ofTheLine();
         heldInOrder();
         writtenLast();
         theMost();
@@ -141,6 +142,16 @@ public final class TermsThreeReadTest {
         told("the second half of the codes", said(reading(8, 8).at(DICTIONARY, 1, 255, 4, 0, 0), "x\u00ffx", 3), 1, 1, 1, 2, 1, 3);
     }
 
+    private static void ofTheLine() {
+        CHECK.says("then WORDS of it ..");
+        // a and b are the same: what is told comes over the codes
+        TaleMachine x = said(Story.of(Orders.var(Orders.READ, LINE, LINE)).at(LINE, 8), "a b, c", 3);
+        int[] want = {8, 3, 0, 0, 1, 1, 0, 0, 2, 3, 0, 0, 1, 6};
+        for (int i = 0; i < want.length; i++) {
+            CHECK.due("byte " + i, x.peek(LINE + i), want[i]);
+        }
+    }
+
     private static void heldInOrder() {
         CHECK.says("a code is held against them in order, up to the one that it is");
         // of 9 SEPARATORS the first two are in MEMORY
@@ -228,6 +239,9 @@ public final class TermsThreeReadTest {
         said(last.at(1019, 2), "a", 1);
         said(last, "b", -11);
         said(reading(8, 8).word(8, 1021).at(1021, 0, 4), "a", -11);
+        Story half = reading(8, 8).word(8, 1016).at(1016, 2, ',', '.', 4, 0, 1, 0x18, 0xA5);
+        said(half, "a", -11);
+        CHECK.due("the first WORD alone is in MEMORY, and another one", entryOf(said(half, "b", 1), 0), 0);
     }
 
     private static void twoHundredFiftyFive() {

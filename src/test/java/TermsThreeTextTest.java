@@ -228,6 +228,19 @@ public final class TermsThreeTextTest {
                 story.at(720, Story.pack(5, 5, 5, 5, 5, 5, 5, 5, 5, 5, 5, 5, 5, 1, 5)).run(1), 12, CODE);
         CHECK.halted("one within one, as LETTER 2001",
                 story.at(720, Story.pack(5, 5, 5, 5, 5, 5, 5, 5, 5, 5, 5, 5, 5, 5, 1)).run(1), 13, CODE);
+        lettersOutOfMemory(4, 1);
+        lettersOutOfMemory(5, 13);
+    }
+
+    /** An abbreviation of so many WORDS up to the end of MEMORY, whose LETTER 12 is LETTER 2000. */
+    private static void lettersOutOfMemory(int words, int halt) {
+        int[] letters = Story.join(Story.repeat(62, 1, 5), Story.code(5, 5, 3, 31));
+        int at = Story.SIZE - 2 * words;
+        Story story = story(letters, Story.repeat(30, 5)).word(ABBREVIATIONS + 190, at / 2);
+        for (int i = 0; i < words; i++) {
+            story.word(at + 2 * i, 5 << 10 | 5 << 5 | 5);
+        }
+        CHECK.halted(words + " WORDS, then none", story.run(1), halt, CODE);
     }
 
     private static void eachTextAlone() {

@@ -201,7 +201,9 @@ public final class TermsTwoOpsTest {
         TaleMachine none = story.at(ROUTINE, 0, 0xB8).run(2);
         CHECK.halted("of none", none, 4, ROUTINE + 1);
         CHECK.due("of none: the FRAME stays", none.count(3), 2);
-        CHECK.halted("of the first FRAME", Story.of(Orders.push(7), Story.code(0xB8)).run(2), 4, CODE + 4);
+        TaleMachine first = Story.of(Orders.push(7), Story.code(0xB8)).run(2);
+        CHECK.halted("of the first FRAME", first, 4, CODE + 4);
+        CHECK.due("of the first FRAME: the top went", first.count(2), 0);
         TaleMachine y = Story.of(Orders.push(6), Orders.push(7), Story.code(0xB9, 0xB9, 0xB9)).run(3);
         CHECK.due("one goes", y.count(2), 1);
         CHECK.due("the other one stays", y.word(0, false), 6);
