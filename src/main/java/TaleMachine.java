@@ -1039,7 +1039,10 @@ public final class TaleMachine {
             int many = Math.min(store.wordAt(at + 1), MOST_ENTRIES);
             int entry = at + 3;
             for (int i = 0; i < many && store.halt == 0; i++) {
-                if (store.wordAt(entry) == first && store.wordAt(entry + 2) == second) {
+                // both WORDS of an entry are read, also where the first one is another: the second may be a HALT
+                int firstThere = store.wordAt(entry);
+                int secondThere = store.wordAt(entry + 2);
+                if (firstThere == first && secondThere == second) {
                     return entry;
                 }
                 entry += length;

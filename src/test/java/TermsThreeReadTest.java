@@ -1,3 +1,5 @@
+import java.util.Arrays;
+
 /** "Terms" 3, sentence by sentence: read with DICTIONARY, and random. */
 public final class TermsThreeReadTest {
     private static final Check CHECK = new Check();
@@ -20,6 +22,8 @@ public final class TermsThreeReadTest {
         theMost();
         fourBytes();
         entries();
+        entryIsTwoWords();
+        entryThatLacks();
         twoHundredFiftyFive();
         sixLetters();
         oneLetterOrMore();
@@ -239,9 +243,43 @@ public final class TermsThreeReadTest {
         said(last.at(1019, 2), "a", 1);
         said(last, "b", -11);
         said(reading(8, 8).word(8, 1021).at(1021, 0, 4), "a", -11);
-        Story half = reading(8, 8).word(8, 1016).at(1016, 2, ',', '.', 4, 0, 1, 0x18, 0xA5);
-        said(half, "a", -11);
-        CHECK.due("the first WORD alone is in MEMORY, and another one", entryOf(said(half, "b", 1), 0), 0);
+    }
+
+    /** Of the last entry, "a", so many bytes are behind MEMORY; those ahead of it are 0. */
+    private static Story lacking(int bytes, int many) {
+        int at = Story.SIZE + bytes - 4 * many - 6;
+        int[] last = {0x18, 0xA5, 0x94, 0xA5};
+        return reading(8, 8).word(8, at).at(at, 2, ',', '.', 4, 0, many)
+                .at(Story.SIZE + bytes - 4, Arrays.copyOf(last, 4 - bytes));
+    }
+
+    private static void entryIsTwoWords() {
+        CHECK.says("the entries: two WORDS");
+        for (int many = 1; many <= 3; many++) {
+            CHECK.due("all in MEMORY", entryOf(said(lacking(0, many), "a", 1), 0), Story.SIZE - 4);
+            CHECK.due("all in MEMORY, another one", entryOf(said(lacking(0, many), "b", 1), 0), 0);
+            for (int bytes = 1; bytes <= 4; bytes++) {
+                said(lacking(bytes, many), "a", -11);
+                said(lacking(bytes, many), "b", -11);
+                said(lacking(bytes, many), "  ", 0);
+                said(lacking(bytes, many).at(WORDS, 0), "b", 0);
+            }
+        }
+    }
+
+    private static void entryThatLacks() {
+        CHECK.says("of none below L: HALT 1");
+        TaleMachine x = said(lacking(2, 1).at(WORDS + 1, 99, 98, 97), "B", -11);
+        CHECK.halted("the second WORD", x, 1, PC);
+        laid(x, "b");
+        CHECK.due("where it is", entryOf(x, 0), 98 * 256 + 97);
+        CHECK.due("how many", x.peek(WORDS + 1), 99);
+        Story ahead = lacking(2, 2).at(Story.SIZE - 6, 0x1C, 0xA5, 0x94, 0xA5);
+        CHECK.due("found in the entry ahead of it", entryOf(said(ahead, "b", 1), 0), Story.SIZE - 6);
+        TaleMachine y = said(ahead.at(WORDS + 1, 99), "b c", -11);
+        CHECK.due("what was told stays", entryOf(y, 0), Story.SIZE - 6);
+        CHECK.due("how many", y.peek(WORDS + 1), 99);
+        CHECK.due("the most is told already", entryOf(said(ahead.at(WORDS, 1), "b c", 1), 0), Story.SIZE - 6);
     }
 
     private static void twoHundredFiftyFive() {
